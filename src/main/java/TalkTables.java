@@ -399,8 +399,8 @@ public final class TalkTables {
     /** What was worked out for the table as it stood no longer holds. */
     private void forget() {
         areas.fresh = false;
-        turns.fresh = false;
-        spoilt.fresh = false;
+        turns.ready = 0;
+        spoilt.ready = 0;
         for (int how = 0; how < 3; how++) {
             bests[how].solved = false;
             bests[how].grown = false;
@@ -1685,7 +1685,9 @@ public final class TalkTables {
         /** Of each area the least worst cost where A, where B goes on talking. */
         int[] goesA = new int[0];
         int[] goesB = new int[0];
-        boolean fresh;
+        /** How many answers are known. */
+        int ready;
+        private boolean changing;
 
         Turns(Areas areas) {
             this.areas = areas;
@@ -1693,26 +1695,24 @@ public final class TalkTables {
         }
 
         int leastWith(int k) {
-            refresh();
+            if (ready == 0) {
+                begin();
+            }
+            int whole = areas.numberOf(table.allRows(), table.allColumns());
+            for (; ready <= k && ready < TURNS; ready++) {
+                changing = changing && addTurn(ready);
+                answers[ready] = Math.min(goesA[whole], goesB[whole]);
+            }
             return k >= 0 && k < TURNS && answers[k] < FAR ? answers[k] : NONE;
         }
 
-        private void refresh() {
-            if (fresh) {
-                return;
-            }
-            fresh = true;
+        private void begin() {
             areas.refresh();
             if (goesA.length < areas.size()) {
                 goesA = new int[areas.size()];
                 goesB = new int[areas.size()];
             }
-            int whole = areas.numberOf(table.allRows(), table.allColumns());
-            boolean changed = true;
-            for (int k = 0; k < TURNS; k++) {
-                changed = changed && addTurn(k);
-                answers[k] = Math.min(goesA[whole], goesB[whole]);
-            }
+            changing = true;
         }
 
         /** One change more than the tables stand for; none at k 0. Whether that made one cheaper. */
@@ -1754,7 +1754,8 @@ public final class TalkTables {
         final int[] answers = new int[BUDGETS];
         /** Of each area the counts by the ten latest budgets, the latest lowest. */
         long[] counts = new long[0];
-        boolean fresh;
+        /** How many answers are known. */
+        int ready;
 
         Spoilt(Areas areas) {
             this.areas = areas;
@@ -1762,35 +1763,32 @@ public final class TalkTables {
         }
 
         int fewestWith(int k) {
-            refresh();
+            if (ready == 0) {
+                begin();
+            }
+            int whole = areas.numberOf(table.allRows(), table.allColumns());
+            for (; ready <= k && ready < BUDGETS; ready++) {
+                if (ready > 0 && answers[ready - 1] > 0) {
+                    addBudget(ready);
+                }
+                answers[ready] = (int) (counts[whole] & ONE);
+            }
             return k >= 0 && k < BUDGETS ? answers[k] : NONE;
         }
 
-        private void refresh() {
-            if (fresh) {
-                return;
-            }
-            fresh = true;
+        private void begin() {
             areas.refresh();
             if (counts.length < areas.size()) {
                 counts = new long[areas.size()];
             }
-            int whole = areas.numberOf(table.allRows(), table.allColumns());
             tellByLeaves();
-            answers[0] = (int) (counts[whole] & ONE);
-            for (int k = 1; k < BUDGETS; k++) {
-                if (answers[k - 1] > 0) {
-                    addBudget(k);
-                }
-                answers[k] = (int) (counts[whole] & ONE);
-            }
         }
 
         /** First how often each value stands in an area, six bits each; then what one leaf spoils. */
         private void tellByLeaves() {
             for (int rowSet = 1; rowSet <= table.allRows(); rowSet++) {
                 int low = rowSet & -rowSet;
-                counts[numberOfRow(rowSet)] = 0;
+                counts[areas.numberOf(rowSet, 0)] = 0;
                 for (int columnSet = 1; columnSet <= table.allColumns(); columnSet++) {
                     counts[areas.numberOf(rowSet, columnSet)] = low == rowSet
                             ? tallyInRow(low, columnSet)
@@ -1804,10 +1802,6 @@ public final class TalkTables {
                     counts[number] = areas.filledOf(number) - mostIn(counts[number]);
                 }
             }
-        }
-
-        private int numberOfRow(int rowSet) {
-            return areas.numberOf(rowSet, 0);
         }
 
         private long tallyInRow(int lone, int columnSet) {
