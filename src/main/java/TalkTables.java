@@ -869,8 +869,9 @@ public final class TalkTables {
             if (!readRows()) {
                 return false;
             }
-            for (int tokens = 0; tokens < TAPE && token != END; tokens++) {
-                if (!readLine()) {
+            for (int lines = 0; lines < TAPE && token != END; lines++) {
+                boolean isTree = token == WORD && word == WORD_TREE;
+                if (!(isTree ? readTree() : readCosts())) {
                     return false;
                 }
             }
@@ -912,17 +913,10 @@ public final class TalkTables {
             return readStop();
         }
 
-        private boolean readLine() {
-            if (token == WORD && word == WORD_COST && !costTold) {
-                return readCosts();
-            }
-            if (token == WORD && word == WORD_TREE) {
-                return readTree();
-            }
-            return refuse(2);
-        }
-
         private boolean readCosts() {
+            if (token != WORD || word != WORD_COST || costTold) {
+                return refuse(2);
+            }
             costTold = true;
             advance();
             if (!isNumberFrom(1)) {
@@ -1040,50 +1034,34 @@ public final class TalkTables {
             return at >= 0 && at < length && at < TAPE ? tape[at] : 0;
         }
 
+        /** The next token; of a run the word is no matter. */
         private void advance() {
             first = next;
             while (first < length && (signAt(0) == ' ' || signAt(0) == '\n')) {
                 first++;
             }
-            size = 0;
-            if (first >= length) {
-                token = END;
-            } else if (isLetter(signAt(0))) {
-                token = WORD;
-                takeWord();
-            } else if (isRunSign(signAt(0))) {
-                token = RUN;
-                takeRun();
-            } else {
-                token = signAt(0) == ';' ? STOP : BAD;
-                size = 1;
-            }
-            if (size > LONGEST) {
-                token = BAD;
-            }
-            next = first + size;
-        }
-
-        private void takeWord() {
+            token = first < length ? kindOf(signAt(0)) : END;
+            size = token == STOP || token == BAD ? 1 : 0;
             word = 0;
-            while (first + size < length && isLetter(signAt(size))) {
+            boolean grows = token == WORD || token == RUN;
+            while (grows && first + size < length && kindOf(signAt(size)) == token) {
                 word = word * BASE + signAt(size) - 'a' + 1;
                 size++;
             }
-        }
-
-        private void takeRun() {
-            while (first + size < length && isRunSign(signAt(size))) {
-                size++;
+            next = first + size;
+            if (size > LONGEST) {
+                token = BAD;
             }
         }
 
-        private static boolean isLetter(int sign) {
-            return sign >= 'a' && sign <= 'z';
-        }
-
-        private static boolean isRunSign(int sign) {
-            return (sign >= '0' && sign <= '9') || sign == '.';
+        private static int kindOf(int sign) {
+            if (sign >= 'a' && sign <= 'z') {
+                return WORD;
+            }
+            if ((sign >= '0' && sign <= '9') || sign == '.') {
+                return RUN;
+            }
+            return sign == ';' ? STOP : BAD;
         }
     }
 
@@ -1531,12 +1509,13 @@ public final class TalkTables {
 
         private void refreshRow(int row) {
             seen[numberOf(1 << row, 0)] = 0;
-            for (int columnSet = 1; columnSet <= table.allColumns(); columnSet++) {
-                int low = columnSet & -columnSet;
-                int value = table.at(row, placeOf(low));
+            for (int column = 0; column < table.columns; column++) {
+                int value = table.at(row, column);
                 int lone = value == FREE ? 0 : (1 << value) + (1 << VALUES);
-                seen[numberOf(1 << row, columnSet)] =
-                        joined(lone, seen[numberOf(1 << row, columnSet ^ low)]);
+                for (int before = 0; before < 1 << column; before++) {
+                    seen[numberOf(1 << row, before | 1 << column)] =
+                            joined(lone, seen[numberOf(1 << row, before)]);
+                }
             }
         }
 
@@ -1565,14 +1544,6 @@ public final class TalkTables {
                 }
             }
             return least;
-        }
-
-        int splitRows(int[] worth, int rowSet, int columnSet, boolean summed) {
-            return split(worth, rowSet, table.columns, columnSet, summed);
-        }
-
-        int splitColumns(int[] worth, int rowSet, int columnSet, boolean summed) {
-            return split(worth, columnSet, 0, rowSet << table.columns, summed);
         }
     }
 
@@ -1611,8 +1582,10 @@ public final class TalkTables {
             if (worth.length < areas.size()) {
                 worth = new int[areas.size()];
             }
-            for (int rowSet = 1; rowSet <= table.allRows(); rowSet++) {
-                for (int columnSet = 1; columnSet <= table.allColumns(); columnSet++) {
+            int rowEnd = table.allRows();
+            int columnEnd = table.allColumns();
+            for (int rowSet = 1; rowSet <= rowEnd; rowSet++) {
+                for (int columnSet = 1; columnSet <= columnEnd; columnSet++) {
                     int number = areas.numberOf(rowSet, columnSet);
                     if (areas.isOneValue(number)) {
                         worth[number] = how == 1 ? 1 : 0;
@@ -1625,12 +1598,12 @@ public final class TalkTables {
         }
 
         private int talkOfA(int rowSet, int columnSet) {
-            return areas.splitRows(worth, rowSet, columnSet, how != 0)
+            return areas.split(worth, rowSet, table.columns, columnSet, how != 0)
                     + priceOf(table.costA, areas.numberOf(rowSet, columnSet));
         }
 
         private int talkOfB(int rowSet, int columnSet) {
-            return areas.splitColumns(worth, rowSet, columnSet, how != 0)
+            return areas.split(worth, columnSet, 0, rowSet << table.columns, how != 0)
                     + priceOf(table.costB, areas.numberOf(rowSet, columnSet));
         }
 
@@ -1718,16 +1691,18 @@ public final class TalkTables {
         /** One change more than the tables stand for; none at k 0. Whether that made one cheaper. */
         private boolean addTurn(int k) {
             boolean changed = k == 0;
-            for (int rowSet = 1; rowSet <= table.allRows(); rowSet++) {
-                for (int columnSet = 1; columnSet <= table.allColumns(); columnSet++) {
+            int rowEnd = table.allRows();
+            int columnEnd = table.allColumns();
+            for (int rowSet = 1; rowSet <= rowEnd; rowSet++) {
+                for (int columnSet = 1; columnSet <= columnEnd; columnSet++) {
                     int number = areas.numberOf(rowSet, columnSet);
                     int byA = 0;
                     int byB = 0;
                     if (!areas.isOneValue(number)) {
                         byA = Math.min(FAR, table.costA
-                                + areas.splitRows(goesA, rowSet, columnSet, false));
+                                + areas.split(goesA, rowSet, table.columns, columnSet, false));
                         byB = Math.min(FAR, table.costB
-                                + areas.splitColumns(goesB, rowSet, columnSet, false));
+                                + areas.split(goesB, columnSet, 0, rowSet << table.columns, false));
                     }
                     if (k > 0) {
                         int heldA = goesA[number];
@@ -1756,6 +1731,8 @@ public final class TalkTables {
         long[] counts = new long[0];
         /** How many answers are known. */
         int ready;
+        /** The budgets, a bit each, by which some area's count is less than by the one before. */
+        private int fallen;
 
         Spoilt(Areas areas) {
             this.areas = areas;
@@ -1782,6 +1759,7 @@ public final class TalkTables {
                 counts = new long[areas.size()];
             }
             tellByLeaves();
+            fallen = 1;
         }
 
         /** First how often each value stands in an area, six bits each; then what one leaf spoils. */
@@ -1819,20 +1797,31 @@ public final class TalkTables {
             return most;
         }
 
+        /** What parts count may be worth less only where their budget's counts fell. */
+        private boolean mayHelp(int k, int cost) {
+            return k >= cost && ((fallen >> (k - cost)) & 1) != 0;
+        }
+
         /** Parts have got this budget's count already, so costs are as many counts back in them. */
         private void addBudget(int k) {
-            for (int rowSet = 1; rowSet <= table.allRows(); rowSet++) {
-                for (int columnSet = 1; columnSet <= table.allColumns(); columnSet++) {
+            boolean byA = mayHelp(k, table.costA);
+            boolean byB = mayHelp(k, table.costB);
+            int rowEnd = table.allRows();
+            int columnEnd = table.allColumns();
+            for (int rowSet = 1; rowSet <= rowEnd; rowSet++) {
+                for (int columnSet = 1; columnSet <= columnEnd; columnSet++) {
                     int number = areas.numberOf(rowSet, columnSet);
-                    int fewest = (int) (counts[number] & ONE);
-                    if (fewest > 0 && k >= table.costA) {
+                    int held = (int) (counts[number] & ONE);
+                    int fewest = held;
+                    if (fewest > 0 && byA) {
                         fewest = Math.min(fewest,
                                 splitBack(rowSet, table.columns, columnSet, table.costA));
                     }
-                    if (fewest > 0 && k >= table.costB) {
+                    if (fewest > 0 && byB) {
                         fewest = Math.min(fewest,
                                 splitBack(columnSet, 0, rowSet << table.columns, table.costB));
                     }
+                    fallen |= fewest < held ? 1 << k : 0;
                     counts[number] = ((counts[number] << BITS) | fewest) & ALL;
                 }
             }
