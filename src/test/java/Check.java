@@ -54,4 +54,18 @@ final class Check {
         }
         return x;
     }
+
+    /** So many nodes, each the first part of the one ahead of it; their second parts are to follow. */
+    static String chain(int nodes) {
+        return "a0".repeat(nodes);
+    }
+
+    static String leaves(int many) {
+        return "leaf0".repeat(many);
+    }
+
+    /** A tree of 2 n + 1 nodes, none within more than five others. */
+    static String bushy(int inner) {
+        return inner == 0 ? "leaf0" : "b0" + bushy((inner - 1) / 2) + bushy(inner - 1 - (inner - 1) / 2);
+    }
 }

@@ -93,23 +93,6 @@ public final class TextTest {
 
     // ---- faults that are told
 
-    private static String chain(int nodes) {
-        StringBuilder text = new StringBuilder();
-        for (int i = 0; i < nodes; i++) {
-            text.append("a0");
-        }
-        return text.toString();
-    }
-
-    private static String leaves(int many) {
-        return "leaf0".repeat(many);
-    }
-
-    /** A tree of 2 n + 1 nodes, none within more than five others. */
-    private static String bushy(int inner) {
-        return inner == 0 ? "leaf0" : "b0" + bushy((inner - 1) / 2) + bushy(inner - 1 - (inner - 1) / 2);
-    }
-
     private static void toldFaults() {
         fault("", 2, 0);
         fault("  \n", 2, 3);
@@ -204,16 +187,16 @@ public final class TextTest {
         fault(four + "tree c", 5, four.length());
         fault(four + "trees", 2, four.length());
         fault(four + "cost 1 2;", 0, -1);
-        fault("0;tree t" + " " + chain(8) + leaves(9) + ";", 0, -1);
-        fault("0;tree t" + " " + chain(9) + leaves(10) + ";", 5, 9 + 18);
-        fault("0;tree t" + " " + chain(10) + leaves(11) + ";", 5, 9 + 18);
-        fault("0;tree t" + " " + chain(9) + "cost", 2, 9 + 18);
-        fault("0;tree t" + " " + chain(9) + " 0", 2, 9 + 19);
-        fault("0;tree t" + " " + chain(9) + "!", 1, 9 + 18);
-        fault("0;tree t" + " " + bushy(15) + ";", 0, -1);
-        String many = "0;tree t " + bushy(16);
+        fault("0;tree t" + " " + Check.chain(8) + Check.leaves(9) + ";", 0, -1);
+        fault("0;tree t" + " " + Check.chain(9) + Check.leaves(10) + ";", 5, 9 + 18);
+        fault("0;tree t" + " " + Check.chain(10) + Check.leaves(11) + ";", 5, 9 + 18);
+        fault("0;tree t" + " " + Check.chain(9) + "cost", 2, 9 + 18);
+        fault("0;tree t" + " " + Check.chain(9) + " 0", 2, 9 + 19);
+        fault("0;tree t" + " " + Check.chain(9) + "!", 1, 9 + 18);
+        fault("0;tree t" + " " + Check.bushy(15) + ";", 0, -1);
+        String many = "0;tree t " + Check.bushy(16);
         fault(many + ";", 5, many.lastIndexOf("leaf", many.length() - 6));
-        String inner = "0;tree t " + bushy(15);
+        String inner = "0;tree t " + Check.bushy(15);
         String last = inner.substring(0, inner.length() - 5);
         fault(last + "b0leaf0leaf0;", 5, last.length() + 2);
         fault(last + "b0;", 2, last.length() + 2);
